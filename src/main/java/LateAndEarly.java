@@ -484,7 +484,6 @@ public final class LateAndEarly {
             tokens.scan(text);
             now = 0;
             fault = 0;
-            place = 0;
             routine.clear();
             for (int b = 0; b < MOST_BLOCKS && (b == 0 || !isNow(Tokens.END)); b++) {
                 if (!readBlock(b)) {
@@ -665,7 +664,7 @@ public final class LateAndEarly {
         }
     }
 
-    /** The SUMS of a ROUTINE. That of a ROW has the sign r, the ROW and the operand in the brackets. */
+    /** The SUMS of a ROUTINE. One of a ROW has the sign r, the ROW, and what is in the brackets. */
     private static final class Sums {
         final int[] sign = new int[MOST_SUMS];
         final int[] first = new int[MOST_SUMS];
@@ -1025,8 +1024,8 @@ public final class LateAndEarly {
             for (int round = 0; changed && round <= r.nodes; round++) {
                 changed = false;
                 for (int n = r.nodes - 1; n >= 0; n--) {
-                    int passes = ~kills[n] & ~(isSeen(r, n, bold) ? bold : 0) & allNext(r, wanted, n);
-                    int set = works[n] | passes;
+                    int stopped = kills[n] | (isSeen(r, n, bold) ? bold : 0);
+                    int set = works[n] | ~stopped & allNext(r, wanted, n);
                     changed |= set != wanted[n];
                     wanted[n] = set;
                 }
@@ -1190,7 +1189,6 @@ public final class LateAndEarly {
             for (int i = 0; i < ROWS; i++) {
                 Arrays.fill(rows[i], 0);
             }
-            Arrays.fill(told, 0);
             Arrays.fill(workedOf, 0);
             Arrays.fill(kept, 0);
             ended = LEFT;

@@ -27,6 +27,10 @@ public final class FactsTest {
         shared();
         kills();
         seen();
+        seenByEach();
+        backwards();
+        laterRounds();
+        usedAgain();
         alone();
         loop();
         thirtyTwoSums();
@@ -196,6 +200,82 @@ public final class FactsTest {
         Check.due("WANTED of v7 + v8", Check.at(x, 5, 2), "1111111111111110");
         Check.due("EARLY of v2 / v3", Check.at(x, 3, 4), "0000000000010000");
         Check.due("EARLY of v7 + v8", Check.at(x, 5, 4), "1000000000000000");
+    }
+
+    private static void seenByEach() {
+        // NODE 1 stands between; where it is SEEN, a bold sum is not WANTED ahead of it.
+        String[] between = {"tell v1;", "r0[1] = 2;", "v1 = 1 / 2;", "v1 = r1[3];",
+            "v1 = 1 + 2;", "v1 = 3;"};
+        for (int i = 0; i < between.length; i++) {
+            String want = i < 4 ? "0010" : "1110";
+            LateAndEarly x = Check.with("b0: v1 = 4; " + between[i] + "v2 = v3 / v4; leave;");
+            Check.due("WANTED behind " + between[i], Check.at(x, x.about(0, 2) - 1, 2), want);
+            LateAndEarly y = Check.with("b0: v1 = 4; " + between[i] + "v2 = r1[v4]; leave;");
+            Check.due("WANTED behind " + between[i], Check.at(y, y.about(0, 2) - 1, 2), want);
+            LateAndEarly z = Check.with("b0: v1 = 4; " + between[i] + "v2 = v3 * v4; leave;");
+            Check.due("WANTED behind " + between[i], Check.at(z, z.about(0, 2) - 1, 2), "1110");
+        }
+        LateAndEarly x = Check.with("b0: v1 = r0[3]; r0[4] = 1; v1 = r0[3]; leave;");
+        Check.due("KILLS of the only SUM", Check.at(x, 0, 1), "0100");
+        Check.due("WANTED of it", Check.at(x, 0, 2), "1010");
+    }
+
+    private static void backwards() {
+        // The blocks stand against the order in which they come to one another.
+        LateAndEarly x = Check.with("b0: v1 = 1; go b4; b1: v6 = v2 ^ v3; leave; b2: v9 = 2; go b1;"
+            + "b3: v9 = 3; go b2; b4: v9 = 4; go b3;");
+        facts(x, 0, "0010000000", "0000000000", "1110111111", "0001000000", "1000000000",
+            "1110111111", "0010000000", "1111111111");
+        placings(x, 1, 0, "1000000000", "0010000000", "0110111111");
+        LateAndEarly y = Check.with("b0: v5 = v2 ^ v3; go b4; b1: v6 = v2 ^ v3; leave; b2: v9 = 2; go b1;"
+            + "b3: v9 = 3; go b2; b4: v9 = 4; go b3;");
+        facts(y, 0, "1010000000", "0000000000", "1110111111", "0111111111", "1000000000",
+            "1000000000", "1000000000", "0011000000");
+        placings(y, 1, 0, "1000000000", "1010000000", "0110111111");
+        placings(y, 2, 0, "1000000000", "1010000000", "0110111111");
+        LateAndEarly z = Check.with("b0: v5 = v2 ^ v3; go b4; b1: v6 = v2 ^ v3; leave; b2: v9 = 2; go b1;"
+            + "b3: v2 = 3; go b2; b4: v9 = 4; go b3;");
+        facts(z, 0, "1010000000", "0000001000", "1010110100", "0101001011", "1000000100",
+            "1010110100", "1010000000", "1111111111");
+    }
+
+    private static void laterRounds() {
+        // What the NODES behind the loop do is known at its head only by a second round.
+        LateAndEarly x = Check.with("b0: go b1; b1: if v0 < 1 b1 b2; b2: if v0 < 2 b1 b3;"
+            + "b3: v4 = v1 - v2; v1 = 2; if v0 < 3 b2 b4; b4: leave;");
+        Check.due("NODES", x.about(0, 1), 11);
+        facts(x, 0, "00010000000", "00001000000", "11110001111", "00001000000", "10000000001",
+            "11110001111", "00010000000", "11111111111");
+    }
+
+    /** The rows of one object hold first one ROUTINE, then others. */
+    private static void usedAgain() {
+        LateAndEarly x = new LateAndEarly();
+        for (int round = 0; round < 3; round++) {
+            Check.parse(x, 0, SHARED);
+            Check.parse(x, 0, "b0: v1 = t2 / 3; v1 = v4 * v5; v2 = v4 * v6; v3 = v5 * v6; leave;");
+            Check.parse(x, 1, "b0: v1 = t2 / 3;");
+            Check.parse(x, 0, MEET);
+            Check.due("SUMS", x.about(0, 2), 1);
+            Check.due("NODES", x.about(0, 1), 7);
+            Check.due("how many lead to NODE 5", x.node(0, 5, 5), 2);
+            Check.due("no t", x.write(0, 1) > 0 ? 1 : 0, 1);
+            Check.due("home", x.home(0), 0);
+            facts(x, 0, "0100010", "0001000", "0110110", "0010001", "0100100", "0100100", "0100100",
+                "1001011");
+            placings(x, 1, 0, "0100100", "0100010", "0010010");
+            placings(x, 2, 0, "0100100", "0100010", "0010010");
+            x.step(0, 0);
+            Check.due("works of the first block", x.works(0, 0, 0), 0);
+            x.step(0, 1);
+            Check.due("works of two blocks", x.works(0, 0, 0), 1);
+            Check.parse(x, 0, BOLD);
+            Check.due("home", x.home(0), 0);
+            Check.due("write", x.write(0, 0), 79);
+            facts(x, 0, "010100", "000000", "111101", "001010", "100000", "110001", "010001", "100110");
+            placings(x, 1, 0, "100000", "010100", "011101");
+            placings(x, 2, 0, "010001", "010100", "001100");
+        }
     }
 
     private static void alone() {

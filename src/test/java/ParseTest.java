@@ -55,6 +55,18 @@ public final class ParseTest {
         bad("b0:if v0<1b1 b2;b1:go b2;b2:leave;", 9, 1);
         bad("123abc", 0, 1);
         bad("leave0a", 0, 1);
+        bad("b0:a", 3, 2);
+        bad("b0:z", 3, 2);
+        bad("b0:az09", 3, 2);
+        bad("b0:`", 3, 1);
+        bad("b0:{", 3, 1);
+        bad("b0:tel", 3, 2);
+        bad("b0:tall", 3, 2);
+        bad("b0:xell", 3, 2);
+        bad("b0:telll", 3, 2);
+        bad("b0:to", 3, 2);
+        bad("b0:of", 3, 2);
+        bad("b0:heave", 3, 2);
     }
 
     private static void tokensOutOfPlace() {
@@ -94,6 +106,12 @@ public final class ParseTest {
         bad("b0:v0=r0[1]+1;leave;", 11, 2);
         bad("b0:v0=1+r0[1];leave;", 8, 2);
         bad("b0:v0=b0;leave;", 6, 2);
+        bad("b0:v0=r0;leave;", 8, 2);
+        bad("b0:v0=r0[;leave;", 9, 2);
+        bad("b0:v0=r0[1;leave;", 10, 2);
+        bad("b0:v0=1+;leave;", 8, 2);
+        bad("b0:v0=-;leave;", 7, 2);
+        bad("b0:r0[1]=;leave;", 9, 2);
         bad("b0:tell;leave;", 7, 2);
         bad("b0:tell v1+1;leave;", 10, 2);
         bad("b0:tell r0[1];leave;", 8, 2);
@@ -188,6 +206,9 @@ public final class ParseTest {
         Check.due("no FAULT", x.wrong(), 0);
         Check.due("the tape is empty", x.tape(0), -1);
         Check.due("the ROUTINE stays", x.about(0, 1), 1);
+        Check.due("a good text behind it", Check.parse(x, 0, "b0:tell 1;leave;"), 2);
+        Check.due("33 SUMS again", Check.parse(x, 0, sums(33) + "leave;"), -3);
+        Check.due("a FAULT behind it", Check.parse(x, 0, "b0:tell 1;leave"), -25);
         bad(sums(33) + "leave", sums(33).length() + 5, 2);
         bad(sums(33) + "go b1;", sums(33).length() + 3, 4);
         good(sums(32) + "leave;", 33);

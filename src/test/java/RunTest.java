@@ -13,6 +13,7 @@ public final class RunTest {
         refusedAheadOfNodes();
         ends();
         spent();
+        spentWithMostNodes();
         spentOnTheWay();
         told();
         taken();
@@ -97,6 +98,11 @@ public final class RunTest {
         x.name(1, 4);
         x.run(0, 0);
         Check.due("rows begin with 0", x.row(1, 3), 0);
+        Check.parse(x, 0, "b0: leave;");
+        x.run(0, 0);
+        Check.due("r0 begins with 0", x.row(0, 0), 0);
+        Check.due("r0 begins with 0 up to 7", x.row(0, 7), 0);
+        Check.due("r1 begins with 0", x.row(1, 4), 0);
     }
 
     private static void refusedStores() {
@@ -185,6 +191,17 @@ public final class RunTest {
             Check.due("v1", y.value(1), 498);
             Check.due("v3", y.value(3), 1);
         }
+    }
+
+    private static void spentWithMostNodes() {
+        // Each NODE is an if, and one ON THE WAY is behind each.
+        LateAndEarly x = Check.with("b0: if v0 < 1 b1 b2; b1: if v0 < 1 b1 b2; b2: leave;");
+        Check.due("NODES ON THE WAY", x.about(0, 3), 4);
+        Check.due("run", x.run(0, 0), 2);
+        ran(x, 2, 1000, 0, -1, 0);
+        x.name(0, 1);
+        Check.due("run", x.run(0, 0), 0);
+        ran(x, 0, 2, 0, -1, 0);
     }
 
     private static void spentOnTheWay() {

@@ -3,6 +3,8 @@ public final class WriteTest {
     public static void main(String[] args) {
         plain();
         placedOnTheWay();
+        severalOnTheWay();
+        severalBlocksMore();
         severalAhead();
         names();
         fortyOneBlocks();
@@ -45,6 +47,35 @@ public final class WriteTest {
         Check.due("text of it", Check.tape(x), late);
     }
 
+    private static void severalOnTheWay() {
+        // The ways to b2 and b3 from b0 and from b1 are kept apart; b4 and on are theirs, by NODES.
+        LateAndEarly x = Check.with("b0: if v0 < 1 b3 b1; b1: v4 = v1 * v2; tell v4; if v0 < 2 b3 b2;"
+            + "b2: tell v4; v1 = 3; v5 = v1 * v2; if v0 < 3 b3 b2; b3: v6 = v1 * v2; v7 = v8 / 2; leave;");
+        written(x, 2, "b0:\n  if v0 < 1 b4 b1;\nb1:\n  t0 = v1 * v2;\n  v4 = t0;\n  tell v4;\n"
+            + "  if v0 < 2 b3 b2;\nb2:\n  tell v4;\n  v1 = 3;\n  t0 = v1 * v2;\n  v5 = t0;\n"
+            + "  if v0 < 3 b3 b2;\nb3:\n  v6 = t0;\n  v7 = v8 / 2;\n  leave;\n"
+            + "b4:\n  t0 = v1 * v2;\n  go b3;\n");
+        LateAndEarly y = Check.with("b0: if v0 < 1 b1 b2; b1: v3 = v1 ^ 1; v4 = v1 & 1; if v0 < 2 b3 b2;"
+            + "b2: v3 = v1 & 1; tell v3; if v0 < 3 b3 b3; b3: v4 = v1 ^ 1; leave;");
+        written(y, 2, "b0:\n  if v0 < 1 b1 b4;\nb1:\n  t0 = v1 ^ 1;\n  v3 = t0;\n  t1 = v1 & 1;\n"
+            + "  v4 = t1;\n  if v0 < 2 b3 b2;\nb2:\n  v3 = t1;\n  tell v3;\n  if v0 < 3 b3 b3;\n"
+            + "b3:\n  v4 = t0;\n  leave;\nb4:\n  t0 = v1 ^ 1;\n  t1 = v1 & 1;\n  go b2;\n");
+    }
+
+    private static void severalBlocksMore() {
+        LateAndEarly x = Check.with("b0: if v0 < 1 b1 b2; b1: v3 = v1 + v2; if v1 < 1 b2 b3;"
+            + "b2: v1 = v9; if v1 < 1 b2 b3; b3: v4 = v1 + v2; leave;");
+        written(x, 1, "b0:\n  if v0 < 1 b1 b2;\nb1:\n  t0 = v1 + v2;\n  v3 = t0;\n"
+            + "  if v1 < 1 b2 b3;\nb2:\n  v1 = v9;\n  if v1 < 1 b2 b4;\nb3:\n  v4 = t0;\n  leave;\n"
+            + "b4:\n  t0 = v1 + v2;\n  go b3;\n");
+        LateAndEarly y = Check.with("b0: v9 = 1; if v0 < 1 b1 b2; b1: v3 = v1 + v2; go b4;"
+            + "b2: if v0 < 3 b3 b4; b3: if v0 < 4 b5 b4; b4: v4 = v1 + v2; leave; b5: leave;");
+        written(y, 2, "b0:\n  v9 = 1;\n  if v0 < 1 b1 b2;\nb1:\n  t0 = v1 + v2;\n  v3 = t0;\n"
+            + "  go b4;\nb2:\n  if v0 < 3 b3 b6;\nb3:\n  if v0 < 4 b5 b7;\nb4:\n  v4 = t0;\n"
+            + "  leave;\nb5:\n  leave;\nb6:\n  t0 = v1 + v2;\n  go b4;\n"
+            + "b7:\n  t0 = v1 + v2;\n  go b4;\n");
+    }
+
     private static void severalAhead() {
         LateAndEarly x = Check.with("b0: v9 = r1[v3]; if v0 < 1 b1 b1;"
             + "b1: v5 = v1 + v2; v6 = v1 * v2; v5 = v1 + v2; v6 = v1 * v2; v4 = 1 - 2; v1 = v1 ^ 3;"
@@ -58,7 +89,7 @@ public final class WriteTest {
     }
 
     private static void names() {
-        String[] withT = {"t0=1;", "v0=t3;", "v0=1+t3;", "v0=t3+1;", "v0=r0[t3];", "r0[t3]=1;",
+        String[] withT = {"t0=1;", "v0=t0;", "v0=t3;", "v0=1+t3;", "v0=t3+1;", "v0=r0[t3];", "r0[t3]=1;",
             "r0[1]=t3;", "tell t3;", "if t3<1 b1 b1;b1:", "if 1<t3 b1 b1;b1:"};
         for (String t : withT) {
             LateAndEarly x = Check.with("b0:" + t + "leave;");
@@ -114,6 +145,7 @@ public final class WriteTest {
         Check.due("late", x.write(0, 2), plain);
         Check.due("early", x.write(0, 1), -3);
         Check.due("the tape stays", Check.tape(x).length(), plain);
+        Check.due("plain again", x.write(0, 0), plain);
     }
 
     private static void refusals() {
