@@ -1075,15 +1075,15 @@ public final class LateAndEarly {
         }
 
         /**
-         * Keeps, at the NODES to which n leads, of a set only what is kept, and what is EARLY
-         * there and in always; whether that took something away.
+         * At the NODES to which n leads a set keeps only what n passes on, and, of the SUMS in
+         * always, what is EARLY there; whether that took something away.
          */
-        private boolean keepInNext(Routine r, int n, int[] set, int always, int kept) {
+        private boolean keepInNext(Routine r, int n, int[] set, int always, int passed) {
             boolean changed = false;
             for (int w = 0; w < 2; w++) {
                 int next = r.leads[w][n];
                 if (next >= 0) {
-                    int left = set[next] & (kept | always & early[next]);
+                    int left = set[next] & (passed | always & early[next]);
                     changed |= left != set[next];
                     set[next] = left;
                 }

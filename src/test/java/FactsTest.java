@@ -34,6 +34,7 @@ public final class FactsTest {
         alone();
         loop();
         thirtyTwoSums();
+        largest();
         refusals();
         Check.end("FactsTest");
     }
@@ -310,6 +311,41 @@ public final class FactsTest {
         Check.due("late places of the last one", x.places(0, 2, 31, 0), 1);
         Check.due("late places of the one ahead", x.places(0, 2, 30, 0), 0);
         Check.due("no SUM 32", x.sum(0, 32, 0), -1);
+    }
+
+    /** 160 statements and ends, 32 SUMS, and 39 ifs of which both ways lead to the same block. */
+    private static void largest() {
+        StringBuilder text = new StringBuilder();
+        for (int b = 0; b < 40; b++) {
+            text.append("b").append(b).append(":");
+            for (int i = 0; i < 3; i++) {
+                text.append("v").append(i).append("=v5^").append(b % 32).append(";");
+            }
+            String next = "b" + (b + 1);
+            text.append(b == 39 ? "leave;" : "if v0<1 " + next + " " + next + ";");
+        }
+        LateAndEarly x = Check.with(text.toString());
+        long[] about = {40, 238, 32, 78, 160};
+        for (int what = 0; what < 5; what++) {
+            Check.due("about " + what, x.about(0, what), about[what]);
+        }
+        nodeIs(x, 155, 5, 38, -1, 236, 237, 1);
+        nodeIs(x, 237, 7, 39, -1, 156, -1, 1);
+        nodeIs(x, 159, 6, 39, -1, -1, -1, 1);
+        Check.due("no NODE 238", x.node(0, 238, 0), -1);
+        // SUM 0 is worked in b0 and b32, SUM 31 in b31; alive on all NODES from behind NODE 0 on.
+        Check.due("life of SUM 0", x.life(0, 1, 0), 130 + 2 * 32);
+        Check.due("life of SUM 31", x.life(0, 1, 31), 126 + 2 * 31);
+        Check.due("late life of SUM 31", x.life(0, 2, 31), 2);
+        Check.due("NODES that TAKE SUM 0", x.places(0, 2, 0, 1), 6);
+        Check.due("run", x.run(0, 1), 0);
+        Check.due("NODES of the RUN", x.ran(1), 160);
+        Check.due("worked", x.ran(4), 32);
+        Check.due("plain run", x.run(0, 0), 0);
+        Check.due("worked plain", x.ran(4), 120);
+        Check.due("written", x.write(0, 1) > 0 ? 1 : 0, 1);
+        Check.due("192 statements and ends", x.parse(1) < -10 ? 1 : 0, 1);
+        Check.due("are too many", x.wrong(), 3);
     }
 
     private static void refusals() {
