@@ -365,6 +365,7 @@ public final class EdgeNodeTest {
         String no = "0".repeat(31);
         facts(x, 31, no + "110", no + "010", "1".repeat(33) + "0", no + "010", "1" + no + "00");
         facts(x, 30, "0".repeat(30) + "1000", no + "010");
+        facts(x, 0, "1" + no + "00", no + "010", "1" + no + "00", "0" + "1".repeat(32) + "0", "1" + no + "00");
     }
 
     /** 10: what 0 .. 7. NONE. */
@@ -403,6 +404,9 @@ public final class EdgeNodeTest {
             Check.due("KILLS of SUM " + e, Check.at(x, e, 1), kills[e]);
             Check.due("WORKS of SUM " + e, Check.at(x, e, 0), "0".repeat(e) + "1" + "0".repeat(13 - e));
         }
+        LateAndEarly rows = Check.with("b0:v2=r1[3];v3=r0[v1];r1[5]=1;r0[5]=1;leave;");
+        Check.due("KILLS of r1[3]", Check.at(rows, 0, 1), "00100");
+        Check.due("KILLS of r0[v1]", Check.at(rows, 1, 1), "00010");
         // The first and the last NAMES.
         LateAndEarly y = Check.with("b0:v9=v0+v15;v9=t0+t31;v0=1;v15=1;t0=1;t31=1;leave;");
         Check.due("KILLS of v0 + v15", Check.at(y, 0, 1), "0011000");
@@ -604,6 +608,6 @@ public final class EdgeNodeTest {
         for (int n = 0; n < x.about(0, 1); n++) {
             all.append(x.node(0, n, 2)).append(x.node(0, n, 3)).append(x.node(0, n, 4)).append(x.node(0, n, 5));
         }
-        return all.append(x.home(0)).toString();
+        return all.append(x.home(0)).append(' ').append(x.sum(0, 0, 4)).toString();
     }
 }

@@ -152,6 +152,7 @@ public final class EdgePlacingTest {
         Check.due("life of 158 NODES", x.life(0, 1, 0), 158);
         Check.due("159 TAKE it", x.places(0, 2, 0, 1), 159);
         Check.due("SET once", x.places(0, 2, 0, 0), 1);
+        Check.due("159 WORK it", x.sum(0, 0, 4), 159);
     }
 
     /** NONE: there is no such PLACING. */

@@ -8,6 +8,7 @@ public final class EdgeTextTest {
         blanksBetweenAnyTokens();
         signsAreTwelve();
         tokensAreAsLongAsCanBe();
+        wordsThatBeginNothing();
         wordsHaveEightSigns();
         numbersHaveNineDigits();
         rowsOfLettersAndDigits();
@@ -113,6 +114,16 @@ public final class EdgeTextTest {
         good("b0:tell 1;leave;", 2);
         good("b0:tell-1;leave;", 2);
         good("b0:if-1<-2 b1 b1;b1:leave;", 4);
+    }
+
+    /** tell, go, if and leave, and no WORDS that are near them. */
+    private static void wordsThatBeginNothing() {
+        String[] words = {"t", "tel", "telll", "xell", "tall", "texl", "telx", "g", "goo", "ho", "ga", "og", "i",
+            "iff", "of", "ig", "fi", "leav", "leaves", "heave", "laave", "leeve", "leawe", "leavf", "end", "tell0"};
+        for (String word : words) {
+            bad("b0:" + word + " 1;leave;", 3, 2);
+            bad("b0:" + word + ";", 3, 2);
+        }
     }
 
     /** WORDS (letters a .. z, then digits, 8 signs at most). */
@@ -581,6 +592,15 @@ public final class EdgeTextTest {
             Check.due("about 0", x.about(0, 1), -1);
             Check.due("parse " + p + " of nothing", x.parse(p), -1);
             Check.due("wrong stays", x.wrong(), 0);
+        }
+        // NONE is ahead of a FAULT, and of FULL.
+        for (String text : new String[] {"?", "b0:leave", "", sums(33) + "leave;"}) {
+            LateAndEarly x = new LateAndEarly();
+            Check.parse(x, 0, "b0:go b0;");
+            Check.due("parse 4 of " + text, Check.parse(x, 4, text), -1);
+            Check.due("parse -1 of " + text, Check.parse(x, -1, text), -1);
+            Check.due("wrong stays", x.wrong(), 4);
+            Check.due("the tape stays", x.cut(text.length()), text.length());
         }
         for (int p = 0; p < 4; p++) {
             LateAndEarly x = new LateAndEarly();
