@@ -357,6 +357,9 @@ public final class EdgeNodeTest {
         for (int e = 0; e < 32; e++) {
             text.append("v0=v1^").append(e).append(";");
         }
+        LateAndEarly stores = Check.with(text.toString().replace("v1^31", "r1[v1]") + "r1[2]=1;r0[2]=1;leave;");
+        Check.due("KILLS of r1[v1], the last one", Check.at(stores, 31, 1), "0".repeat(32) + "100");
+        Check.due("KILLS of the one ahead", Check.at(stores, 30, 1), "0".repeat(35));
         LateAndEarly x = Check.with(text + "v1=v1^31;leave;");
         Check.due("SUMS", x.about(0, 2), 32);
         Check.due("sum 31", x.sum(0, 31, 2), 31);

@@ -77,6 +77,7 @@ public final class EdgePlacingTest {
         }
     }
 
+    /** one that is LATEST and ALONE: nothing is SET for it, and it WORKS the SUM itself. */
     private static void setWhereItIsWorked() {
         LateAndEarly x = Check.with(TEXTS[0]);
         placing(x, 1, "110", "110", "000");
@@ -86,6 +87,7 @@ public final class EdgePlacingTest {
         placing(y, 2, "000000", "000000", "000000");
     }
 
+    /** each NODE that WORKS it TAKES it: the second one of two, which is not LATEST, too. */
     private static void takenWhereItIsNotLatest() {
         LateAndEarly x = Check.with(TEXTS[1]);
         placing(x, 1, "100", "110", "010");

@@ -105,6 +105,7 @@ public final class EdgeRunTest {
         }
     }
 
+    /** A RUN begins with NAMES as told: not with what an earlier one left. */
     private static void runsBeginAnew() {
         LateAndEarly x = Check.with("b0:v0=v0+1;t31=t31+1;tell v0;leave;");
         for (int i = 0; i < 3; i++) {

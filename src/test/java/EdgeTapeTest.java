@@ -255,6 +255,7 @@ public final class EdgeTapeTest {
         Check.due("cut 4", x.cut(4), -2);
     }
 
+    /** 3: BAD: it has not so many: 3000 and 3001 of a full one. */
     private static void cutOfAFullTape() {
         LateAndEarly x = withBytes(3000);
         Check.due("cut 3001", x.cut(3001), -2);

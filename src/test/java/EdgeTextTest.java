@@ -78,6 +78,7 @@ public final class EdgeTextTest {
         }
     }
 
+    /** blanks between as may be: any number, none, and ahead of and behind all; not within a TOKEN. */
     private static void blanksBetweenAnyTokens() {
         String text = "b0 : v0 = - 1 ; v1 = v0 - - 2 ; r1 [ v0 ] = t0 ; v2 = r0 [ - 4 ] ; "
             + "tell 5 ; if - 1 < t1 b1 b1 ; b1 : leave ; ";
@@ -546,6 +547,7 @@ public final class EdgeTextTest {
         Check.due("the 32 stay", x.about(0, 2), 32);
     }
 
+    /** 5: FULL (no FAULT). */
     private static void faultAheadOfFull() {
         String text = sums(33);
         bad(text + "leave", text.length() + 5, 2);

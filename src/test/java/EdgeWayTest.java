@@ -87,6 +87,7 @@ public final class EdgeWayTest {
         Check.due("b0", y.step(0, 0), 1);
     }
 
+    /** 21: NONE (no such block): b39 of 40, and no b40. */
     private static void blockOfTheNumber39() {
         StringBuilder text = new StringBuilder("b0:if v0<1 b39 b1;");
         for (int b = 1; b < 39; b++) {
@@ -104,6 +105,7 @@ public final class EdgeWayTest {
         works(x, 1, 1, 1);
     }
 
+    /** 21: BAD: no way leads there: none does from a leave. */
     private static void behindALeave() {
         LateAndEarly x = Check.with(LOOP);
         steps(x, 0, 1, 2);
@@ -193,6 +195,7 @@ public final class EdgeWayTest {
         Check.due("blocks of place 1", x.home(1), 0);
     }
 
+    /** 21: behind THE WAY of place p's ROUTINE. */
     private static void eachPlaceItsOwn() {
         LateAndEarly x = new LateAndEarly();
         for (int p = 0; p < 4; p++) {
@@ -249,6 +252,7 @@ public final class EdgeWayTest {
         Check.due("blocks", x.home(3), 1);
     }
 
+    /** 23: on an empty WAY no SUM is WORKED. */
     private static void nothingOnAnEmptyWay() {
         works(Check.with(LOOP), 0, 0, 0);
         LateAndEarly x = Check.with(LOOP);
@@ -313,6 +317,7 @@ public final class EdgeWayTest {
         works(x, 1, 1, 1);
     }
 
+    /** WORKED on it, as often as each block stands in it, up to 60. */
     private static void sixtyTimes() {
         LateAndEarly x = Check.with("b0:go b1;b1:v3=v1+v2;v1=v1+v2;v3=v1+v2;if v0<1 b1 b2;b2:leave;");
         steps(x, 0);

@@ -110,6 +110,7 @@ public final class EdgeWriteTest {
             + "  t0 = v1 + v2;\n  go b4;\nb7:\n  t0 = v1 + v2;\n  go b4;\n");
     }
 
+    /** (an if of which both ways lead to it has two): each is a block more. */
     private static void bothWaysOfAnIf() {
         LateAndEarly x = Check.with("b0:if v0<1 b1 b2;b1:v3=v1+v2;go b3;b2:if v5<1 b3 b3;b3:v4=v1+v2;leave;");
         written(x, 2, "b0:\n  if v0 < 1 b1 b2;\nb1:\n  t0 = v1 + v2;\n  v3 = t0;\n  go b3;\nb2:\n"
@@ -209,6 +210,7 @@ public final class EdgeWriteTest {
         Check.due("cut", x.cut(13), 13);
     }
 
+    /** 2, 24: THE TAPE is the text: bytes come behind it. */
     private static void feedBehindIt() {
         LateAndEarly x = Check.with("b0:leave;");
         x.write(0, 0);
